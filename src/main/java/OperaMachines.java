@@ -436,7 +436,6 @@ public final class OperaMachines {
             this.first = first;
             this.width = width;
             this.speed = speed;
-            place = first;
         }
 
         boolean turns() {
